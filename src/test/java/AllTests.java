@@ -4,6 +4,15 @@ public final class AllTests {
     }
 
     public static void main(String[] arguments) throws Exception {
+        FaceTest.run();
+        KindsTest.run();
+        StaysTest.run();
+        DaysTest.run();
+        OffersTest.run();
+        UndoTest.run();
+        DatesTest.run();
+        NightsTest.run();
+        ReportsTest.run();
         RandomRunsTest.run();
         System.out.println(Check.passed + " answers as due, " + Check.failed + " not as due");
         if (Check.failed > 0 || Check.passed == 0) {

@@ -22,7 +22,7 @@ final class Look {
         LocalDate today = toDate(hotel.today());
         for (int kind = 0; kind < hotel.kinds(); kind++) {
             text.append("\nkind ").append(kind).append(" needs ").append(hotel.needed(kind));
-            for (int i = -3; i < 40; i++) {
+            for (int i = -3; i < 40 && today.plusDays(i).getYear() < 2100; i++) {
                 int night = toNumber(today.plusDays(i));
                 text.append(' ').append(hotel.count(kind, night)).append('/').append(hotel.priceOf(kind, night));
             }
