@@ -5,6 +5,7 @@ public final class AllTests {
 
     public static void main(String[] arguments) throws Exception {
         FaceTest.run();
+        LanguageTest.run();
         KindsTest.run();
         StaysTest.run();
         DaysTest.run();
