@@ -8,15 +8,7 @@ final class DatesTest {
     private DatesTest() {
     }
 
-    static void run() {
-        promise20Today();
-        promise21DayOfWeek();
-        promise22AddDays();
-        promise22LengthsOfMonths();
-    }
-
     private static void promise20Today() {
-        Check.begin("promise 20");
         HotelNights hotel = new HotelNights();
         Check.same("today", hotel.today(), 20240226);
         hotel.passes(4);
@@ -26,7 +18,6 @@ final class DatesTest {
     }
 
     private static void promise21DayOfWeek() {
-        Check.begin("promise 21");
         HotelNights hotel = new HotelNights();
         LocalDate end = LocalDate.of(2100, 1, 1);
         for (LocalDate date = LocalDate.of(2000, 1, 1); date.isBefore(end); date = date.plusDays(1)) {
@@ -39,7 +30,6 @@ final class DatesTest {
     }
 
     private static void promise22LengthsOfMonths() {
-        Check.begin("promise 22, months");
         HotelNights hotel = new HotelNights();
         for (int year = 2000; year <= 2099; year++) {
             for (int month = 1; month <= 12; month++) {
@@ -61,7 +51,6 @@ final class DatesTest {
     }
 
     private static void promise22AddDays() {
-        Check.begin("promise 22");
         HotelNights hotel = new HotelNights();
         LocalDate end = LocalDate.of(2100, 1, 1);
         for (LocalDate date = LocalDate.of(2000, 1, 1); date.isBefore(end); date = date.plusDays(1)) {

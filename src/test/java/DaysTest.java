@@ -3,19 +3,7 @@ final class DaysTest {
     private DaysTest() {
     }
 
-    static void run() {
-        promise15Passes();
-        promise15Over();
-        promise15HeldStays();
-        promise15SentAway();
-        promise15SentAwayOneByOne();
-        promise15GuestsGetRoomsEachDay();
-        promise15DayByDay();
-        promise15TheEndOfTheYears();
-    }
-
     private static void promise15Passes() {
-        Check.begin("promise 15");
         HotelNights hotel = new HotelNights();
         Check.same("one day", hotel.passes(1), 20240227);
         Check.same("over the leap day", hotel.passes(3), 20240301);
@@ -28,7 +16,6 @@ final class DaysTest {
     }
 
     private static void promise15Over() {
-        Check.begin("promise 15, over");
         HotelNights hotel = new HotelNights();
         hotel.setWeekend(0, 101);
         hotel.ask(0, 20240226, 2, 1, 1, 20240226);
@@ -46,7 +33,6 @@ final class DaysTest {
     }
 
     private static void promise15HeldStays() {
-        Check.begin("promise 15, held");
         HotelNights hotel = new HotelNights();
         hotel.ask(0, 20240301, 1, 1, 0, 20240227);
         hotel.ask(0, 20240228, 1, 1, 0, 20240228);
@@ -61,7 +47,6 @@ final class DaysTest {
     }
 
     private static void promise15SentAway() {
-        Check.begin("promise 15, sent away");
         HotelNights hotel = new HotelNights();
         hotel.setExtra(1, 3);
         hotel.ask(1, 20240301, 1, 1, 0, 20240301);
@@ -87,7 +72,6 @@ final class DaysTest {
     }
 
     private static void promise15SentAwayOneByOne() {
-        Check.begin("promise 15, sent away one by one");
         HotelNights hotel = new HotelNights();
         hotel.setExtra(0, 2);
         hotel.ask(0, 20240228, 1, 1, 0, 20240228);
@@ -108,7 +92,6 @@ final class DaysTest {
     }
 
     private static void promise15GuestsGetRoomsEachDay() {
-        Check.begin("promise 15, waiting");
         HotelNights hotel = new HotelNights();
         hotel.ask(1, 20240228, 1, 1, 0, 20240226);
         hotel.waitFor(1, 20240228, 1, 1, 0);
@@ -125,7 +108,6 @@ final class DaysTest {
 
     /** It takes more calls than are promised to come there, but those that tell the time should hold all the same. */
     private static void promise15TheEndOfTheYears() {
-        Check.begin("promise 15, the end");
         HotelNights hotel = new HotelNights();
         while (hotel.today() < 20991201) {
             hotel.passes(hotel.today() < 20991001 ? 31 : 1);
@@ -141,7 +123,6 @@ final class DaysTest {
     }
 
     private static void promise15DayByDay() {
-        Check.begin("promise 15, day by day");
         HotelNights hotel = new HotelNights();
         hotel.ask(1, 20240303, 1, 1, 0, 20240301);
         hotel.waitFor(1, 20240303, 1, 1, 0);

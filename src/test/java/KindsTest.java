@@ -3,24 +3,7 @@ final class KindsTest {
     private KindsTest() {
     }
 
-    static void run() {
-        promise01NewObject();
-        promise02AddKind();
-        promise03CloseNight();
-        promise03OpeningLetsGuestsIn();
-        promise03ClosedNightsOfAKindThatWasUndone();
-        promise03EachNightIsClosedForItself();
-        promise04SetExtra();
-        promise04ExtraLetsGuestsIn();
-        promise05AddSeason();
-        promise05LeastNights();
-        promise05PricesRoundedAndNeverBelowZero();
-        promise06SetWeekend();
-        promise06TaxOfAStay();
-    }
-
     private static void promise01NewObject() {
-        Check.begin("promise 1");
         HotelNights hotel = new HotelNights();
         Check.same("kinds", hotel.kinds(), 2);
         Check.same("price of kind 0", hotel.priceOf(0, 20240226), 10000);
@@ -41,7 +24,6 @@ final class KindsTest {
     }
 
     private static void promise02AddKind() {
-        Check.begin("promise 2");
         HotelNights hotel = new HotelNights();
         Check.noArgument(hotel, "no room", () -> hotel.addKind(0, 100));
         Check.noArgument(hotel, "7 rooms", () -> hotel.addKind(7, 100));
@@ -60,7 +42,6 @@ final class KindsTest {
     }
 
     private static void promise03CloseNight() {
-        Check.begin("promise 3");
         HotelNights hotel = new HotelNights();
         hotel.ask(0, 20240229, 3, 1, 0, 20240229);
         Check.same("closing", hotel.closeNight(0, 20240301, true), 0);
@@ -83,7 +64,6 @@ final class KindsTest {
     }
 
     private static void promise03OpeningLetsGuestsIn() {
-        Check.begin("promise 3, waiting");
         HotelNights hotel = new HotelNights();
         hotel.closeNight(0, 20240301, true);
         hotel.waitFor(0, 20240301, 1, 1, 0);
@@ -101,7 +81,6 @@ final class KindsTest {
     }
 
     private static void promise03ClosedNightsOfAKindThatWasUndone() {
-        Check.begin("promise 3, undone kind");
         HotelNights hotel = new HotelNights();
         hotel.addKind(1, 100);
         hotel.setExtra(2, 1);
@@ -115,7 +94,6 @@ final class KindsTest {
     }
 
     private static void promise03EachNightIsClosedForItself() {
-        Check.begin("promise 3, many nights");
         HotelNights hotel = new HotelNights();
         for (int i = 0; i < 100; i++) {
             hotel.closeNight(0, hotel.addDays(20240301, i), i % 3 != 0);
@@ -129,7 +107,6 @@ final class KindsTest {
     }
 
     private static void promise04SetExtra() {
-        Check.begin("promise 4");
         HotelNights hotel = new HotelNights();
         Check.same("extra 3", hotel.setExtra(1, 3), 0);
         Check.same("four stays", hotel.group(1, 4, 20240301, 1, 20240301), 0);
@@ -145,7 +122,6 @@ final class KindsTest {
     }
 
     private static void promise04ExtraLetsGuestsIn() {
-        Check.begin("promise 4, waiting");
         HotelNights hotel = new HotelNights();
         hotel.ask(1, 20240301, 1, 1, 0, 20240301);
         for (int i = 0; i < 4; i++) {
@@ -162,7 +138,6 @@ final class KindsTest {
     }
 
     private static void promise05AddSeason() {
-        Check.begin("promise 5");
         HotelNights hotel = new HotelNights();
         Check.noArgument(hotel, "from 230", () -> hotel.addSeason(230, 301, 0, 1));
         Check.noArgument(hotel, "to 1301", () -> hotel.addSeason(101, 1301, 0, 1));
@@ -194,7 +169,6 @@ final class KindsTest {
     }
 
     private static void promise05LeastNights() {
-        Check.begin("promise 5, least nights");
         HotelNights hotel = new HotelNights();
         hotel.addSeason(301, 310, 0, 3);
         hotel.addSeason(305, 320, 0, 2);
@@ -213,7 +187,6 @@ final class KindsTest {
     }
 
     private static void promise05PricesRoundedAndNeverBelowZero() {
-        Check.begin("promise 5, prices");
         HotelNights hotel = new HotelNights();
         hotel.addKind(1, 150);
         hotel.addSeason(301, 301, 1, 1);
@@ -235,7 +208,6 @@ final class KindsTest {
     }
 
     private static void promise06SetWeekend() {
-        Check.begin("promise 6");
         HotelNights hotel = new HotelNights();
         Check.same("tax before", hotel.setWeekend(20, 1000), 0);
         Check.same("tax before", hotel.setWeekend(100, 7), 1000);
@@ -257,7 +229,6 @@ final class KindsTest {
     }
 
     private static void promise06TaxOfAStay() {
-        Check.begin("promise 6, tax");
         HotelNights hotel = new HotelNights();
         hotel.setWeekend(0, 1);
         hotel.ask(0, 20240305, 2, 3, 4, 20240301);

@@ -3,23 +3,7 @@ final class NightsTest {
     private NightsTest() {
     }
 
-    static void run() {
-        promise23Kinds();
-        promise24Count();
-        promise25Greatest();
-        promise26Needed();
-        promise27RefusedNight();
-        promise28StayAt();
-        promise29RoomOf();
-        promise29RoomsOfEqualFirstNights();
-        promise30PriceOf();
-        promise31Refund();
-        promise32Book();
-        promise33Waiting();
-    }
-
     private static void promise23Kinds() {
-        Check.begin("promise 23");
         HotelNights hotel = new HotelNights();
         Check.same("kinds", hotel.kinds(), 2);
         hotel.addKind(1, 100);
@@ -29,7 +13,6 @@ final class NightsTest {
     }
 
     private static void promise24Count() {
-        Check.begin("promise 24");
         HotelNights hotel = new HotelNights();
         hotel.ask(0, 20240301, 2, 1, 0, 20240301);
         hotel.ask(0, 20240302, 2, 1, 0, 20240301);
@@ -51,7 +34,6 @@ final class NightsTest {
     }
 
     private static void promise25Greatest() {
-        Check.begin("promise 25");
         HotelNights hotel = new HotelNights();
         hotel.ask(0, 20240301, 5, 1, 0, 20240301);
         hotel.ask(0, 20240303, 1, 1, 0, 20240301);
@@ -74,7 +56,6 @@ final class NightsTest {
     }
 
     private static void promise26Needed() {
-        Check.begin("promise 26");
         HotelNights hotel = new HotelNights();
         Check.same("none", hotel.needed(0), 0);
         hotel.setExtra(0, 3);
@@ -93,7 +74,6 @@ final class NightsTest {
     }
 
     private static void promise27RefusedNight() {
-        Check.begin("promise 27");
         HotelNights hotel = new HotelNights();
         hotel.closeNight(0, 20240302, true);
         Check.same("none", hotel.refusedNight(), 0);
@@ -114,7 +94,6 @@ final class NightsTest {
     }
 
     private static void promise28StayAt() {
-        Check.begin("promise 28");
         HotelNights hotel = new HotelNights();
         hotel.setWeekend(0, 11);
         hotel.group(1, 1, 20240301, 2, 20240229);
@@ -133,7 +112,6 @@ final class NightsTest {
     }
 
     private static void promise29RoomOf() {
-        Check.begin("promise 29");
         HotelNights hotel = new HotelNights();
         hotel.setExtra(0, 1);
         int[][] asked = {{20240305, 2}, {20240301, 3}, {20240301, 1}, {20240302, 2}, {20240303, 4}, {20240303, 1},
@@ -154,7 +132,6 @@ final class NightsTest {
     }
 
     private static void promise29RoomsOfEqualFirstNights() {
-        Check.begin("promise 29, equal first nights");
         HotelNights hotel = new HotelNights();
         hotel.setExtra(1, 3);
         hotel.ask(1, 20240302, 1, 1, 0, 20240226);
@@ -172,7 +149,6 @@ final class NightsTest {
     }
 
     private static void promise30PriceOf() {
-        Check.begin("promise 30");
         HotelNights hotel = new HotelNights();
         hotel.addKind(6, 1000);
         hotel.setExtra(2, 3);
@@ -195,7 +171,6 @@ final class NightsTest {
     }
 
     private static void promise31Refund() {
-        Check.begin("promise 31");
         HotelNights hotel = new HotelNights();
         hotel.addKind(1, 105);
         hotel.ask(2, 20240312, 1, 1, 0, 20240301);
@@ -217,7 +192,6 @@ final class NightsTest {
     }
 
     private static void promise32Book() {
-        Check.begin("promise 32");
         HotelNights hotel = new HotelNights();
         hotel.setWeekend(0, 50);
         hotel.ask(0, 20240226, 2, 2, 0, 20240226);
@@ -241,7 +215,6 @@ final class NightsTest {
     }
 
     private static void promise33Waiting() {
-        Check.begin("promise 33");
         HotelNights hotel = new HotelNights();
         Check.same("none", hotel.waiting(), 0);
         hotel.waitFor(0, 20240301, 1, 1, 0);

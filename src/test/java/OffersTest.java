@@ -3,19 +3,6 @@ final class OffersTest {
     private OffersTest() {
     }
 
-    static void run() {
-        promise16SetOdds();
-        promise17Sell();
-        promise18Offer();
-        promise18OddsChangeWithinASale();
-        promise34Awaited();
-        promise34AwaitedTheGreatest();
-        promise35Limit();
-        promise36SaleAt();
-        promise37MoreToSell();
-        promise37MoreToSellJustAtTheRisk();
-    }
-
     /** 10000 with 0.5 and 4000 with 0.25, nothing with 0.25. */
     private static HotelNights withTwoSorts() {
         HotelNights hotel = new HotelNights();
@@ -25,7 +12,6 @@ final class OffersTest {
     }
 
     private static void promise16SetOdds() {
-        Check.begin("promise 16");
         HotelNights hotel = new HotelNights();
         Check.same("no odds", hotel.setOdds(2, 100000, 0), 0);
         Check.same("first sort", hotel.setOdds(0, 100000, 600), 600);
@@ -45,7 +31,6 @@ final class OffersTest {
     }
 
     private static void promise17Sell() {
-        Check.begin("promise 17");
         HotelNights hotel = withTwoSorts();
         Check.same("without another day", hotel.sell(1, 1), 0);
         Check.same("first limit", hotel.sell(2, 1), 6000);
@@ -64,7 +49,6 @@ final class OffersTest {
     }
 
     private static void promise18Offer() {
-        Check.begin("promise 18");
         HotelNights hotel = withTwoSorts();
         Check.noState(hotel, "no sale", () -> hotel.offer(100));
         Check.noArgument(hotel, "argument ahead of state", () -> hotel.offer(-1));
@@ -86,7 +70,6 @@ final class OffersTest {
     }
 
     private static void promise18OddsChangeWithinASale() {
-        Check.begin("promise 18, other odds");
         HotelNights hotel = withTwoSorts();
         hotel.sell(2, 1);
         hotel.setOdds(0, 10000, 0);
@@ -97,7 +80,6 @@ final class OffersTest {
     }
 
     private static void promise34Awaited() {
-        Check.begin("promise 34");
         HotelNights hotel = withTwoSorts();
         Check.same("no day", hotel.awaited(0, 5), 0);
         Check.same("no room", hotel.awaited(4, 0), 0);
@@ -114,7 +96,6 @@ final class OffersTest {
     }
 
     private static void promise34AwaitedTheGreatest() {
-        Check.begin("promise 34, the greatest");
         HotelNights hotel = new HotelNights();
         hotel.setOdds(0, 100000, 1000);
         Check.same("four days, five rooms", hotel.awaited(4, 5), 400000000000000000L);
@@ -122,7 +103,6 @@ final class OffersTest {
     }
 
     private static void promise35Limit() {
-        Check.begin("promise 35");
         HotelNights hotel = withTwoSorts();
         Check.same("one day", hotel.limit(1, 1), 0);
         Check.same("two days, one room", hotel.limit(2, 1), 6000);
@@ -143,7 +123,6 @@ final class OffersTest {
     }
 
     private static void promise36SaleAt() {
-        Check.begin("promise 36");
         HotelNights hotel = withTwoSorts();
         Check.noState(hotel, "no sale", () -> hotel.saleAt(0));
         Check.noArgument(hotel, "argument ahead of state", () -> hotel.saleAt(4));
@@ -178,7 +157,6 @@ final class OffersTest {
     }
 
     private static void promise37MoreToSell() {
-        Check.begin("promise 37");
         HotelNights hotel = new HotelNights();
         Check.same("none comes", hotel.moreToSell(0, 0, 0), 3);
         Check.same("all come", hotel.moreToSell(0, 1000, 999), 0);
@@ -205,7 +183,6 @@ final class OffersTest {
 
     /** With 27 digits a rounded reckoning could miss these by one. */
     private static void promise37MoreToSellJustAtTheRisk() {
-        Check.begin("promise 37, six rooms");
         HotelNights hotel = new HotelNights();
         hotel.addKind(6, 100);
         Check.same("999 to the power of 7 is above 0.993", hotel.moreToSell(2, 999, 993), 0);

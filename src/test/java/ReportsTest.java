@@ -6,20 +6,7 @@ final class ReportsTest {
     private ReportsTest() {
     }
 
-    static void run() {
-        promise38Minutes();
-        promise39Rounds();
-        promise39RoundsOfAllMixtures();
-        promise40MonthNights();
-        promise41MonthIncome();
-        promise42MeanPrice();
-        promise43Share();
-        promise44Checksum();
-        promise45Errors();
-    }
-
     private static void promise38Minutes() {
-        Check.begin("promise 38");
         HotelNights hotel = new HotelNights();
         hotel.setExtra(1, 1);
         hotel.ask(0, 20240301, 2, 1, 0, 20240301);
@@ -40,7 +27,6 @@ final class ReportsTest {
     }
 
     private static void promise39Rounds() {
-        Check.begin("promise 39");
         HotelNights hotel = new HotelNights();
         Check.same("none", hotel.rounds(20240302), 0);
         hotel.group(0, 3, 20240301, 1, 20240301);
@@ -54,7 +40,6 @@ final class ReportsTest {
 
     /** All numbers of rooms of both sorts that two kinds of six rooms can have, by trying all ways to fill rounds. */
     private static void promise39RoundsOfAllMixtures() {
-        Check.begin("promise 39, mixtures");
         for (int longs = 0; longs <= 9; longs++) {
             for (int shorts = 0; longs + shorts <= 9; shorts++) {
                 HotelNights hotel = new HotelNights();
@@ -107,7 +92,6 @@ final class ReportsTest {
     }
 
     private static void promise40MonthNights() {
-        Check.begin("promise 40");
         HotelNights hotel = withStaysOfAllStates();
         Check.same("February", hotel.monthNights(202402), 1 + 2);
         Check.same("March", hotel.monthNights(202403), 2);
@@ -131,7 +115,6 @@ final class ReportsTest {
     }
 
     private static void promise41MonthIncome() {
-        Check.begin("promise 41");
         HotelNights hotel = withStaysOfAllStates();
         Check.same("February", hotel.monthIncome(202402), 10000 + 50000);
         Check.same("March", hotel.monthIncome(202403), 50000);
@@ -153,7 +136,6 @@ final class ReportsTest {
     }
 
     private static void promise42MeanPrice() {
-        Check.begin("promise 42");
         HotelNights hotel = new HotelNights();
         Check.same("without stays", hotel.meanPrice(), 0.0);
         hotel.ask(0, 20240301, 2, 1, 0, 20240301);
@@ -174,7 +156,6 @@ final class ReportsTest {
     }
 
     private static void promise43Share() {
-        Check.begin("promise 43");
         HotelNights hotel = new HotelNights();
         Check.same("none", hotel.share(0, 20240301), 0.0f);
         hotel.ask(0, 20240301, 1, 1, 0, 20240301);
@@ -191,7 +172,6 @@ final class ReportsTest {
     }
 
     private static void promise44Checksum() {
-        Check.begin("promise 44");
         HotelNights hotel = new HotelNights();
         Check.same("without stays", hotel.checksum(), 17 * 31 + 20240226);
         hotel.ask(0, 20240301, 2, 1, 0, 20240301);
@@ -208,7 +188,6 @@ final class ReportsTest {
     }
 
     private static void promise45Errors() {
-        Check.begin("promise 45");
         HotelNights hotel = withStaysOfAllStates();
         Check.same("all states", hotel.errors(), 0);
         hotel.setExtra(0, 3);

@@ -3,27 +3,6 @@ final class StaysTest {
     private StaysTest() {
     }
 
-    static void run() {
-        promise07Ask();
-        promise07AskThrows();
-        promise07SixtyStays();
-        promise08Group();
-        promise08GroupIsRefusedWhole();
-        promise08GroupThrows();
-        promise09LetGo();
-        promise10WaitFor();
-        promise10GuestsAreGoneThroughInOrder();
-        promise10GuestsThatMoveUp();
-        promise10NoStayBeyondSixty();
-        promise11Pay();
-        promise12Cancel();
-        promise12Refunds();
-        promise13Longer();
-        promise13LongerThrows();
-        promise14Shorter();
-        promise14ShorterThrows();
-    }
-
     /** Sixty stays of one night each, three a night from 20240226 on. */
     private static HotelNights withSixtyStays() {
         HotelNights hotel = new HotelNights();
@@ -35,7 +14,6 @@ final class StaysTest {
     }
 
     private static void promise07Ask() {
-        Check.begin("promise 7");
         HotelNights hotel = new HotelNights();
         Check.same("today, held till today", hotel.ask(0, 20240226, 14, 4, 4, 20240226), 0);
         Check.same("its price", hotel.stayAt(0, 4), 140000);
@@ -54,7 +32,6 @@ final class StaysTest {
     }
 
     private static void promise07AskThrows() {
-        Check.begin("promise 7, throws");
         HotelNights hotel = new HotelNights();
         hotel.passes(1);
         Check.noIndex(hotel, "kind 2", () -> hotel.ask(2, 20240301, 1, 1, 0, 20240301));
@@ -79,7 +56,6 @@ final class StaysTest {
     }
 
     private static void promise07SixtyStays() {
-        Check.begin("promise 7, sixty stays");
         HotelNights hotel = withSixtyStays();
         Check.noState(hotel, "one more", () -> hotel.ask(0, 20240401, 1, 1, 0, 20240226));
         Check.noState(hotel, "one that would be refused", () -> hotel.ask(0, 20240226, 1, 1, 0, 20240226));
@@ -92,7 +68,6 @@ final class StaysTest {
     }
 
     private static void promise08Group() {
-        Check.begin("promise 8");
         HotelNights hotel = new HotelNights();
         hotel.setWeekend(0, 100);
         hotel.ask(0, 20240301, 1, 1, 0, 20240301);
@@ -114,7 +89,6 @@ final class StaysTest {
     }
 
     private static void promise08GroupIsRefusedWhole() {
-        Check.begin("promise 8, refused");
         HotelNights hotel = new HotelNights();
         hotel.ask(0, 20240302, 1, 1, 0, 20240301);
         hotel.ask(0, 20240301, 1, 1, 0, 20240301);
@@ -133,7 +107,6 @@ final class StaysTest {
     }
 
     private static void promise08GroupThrows() {
-        Check.begin("promise 8, throws");
         HotelNights hotel = new HotelNights();
         Check.noIndex(hotel, "kind 2", () -> hotel.group(2, 0, 20240301, 1, 20240301));
         Check.noArgument(hotel, "no stay", () -> hotel.group(0, 0, 20240301, 1, 20240301));
@@ -154,7 +127,6 @@ final class StaysTest {
     }
 
     private static void promise09LetGo() {
-        Check.begin("promise 9");
         HotelNights hotel = new HotelNights();
         Check.noIndex(hotel, "no group yet", () -> hotel.letGo(0));
         hotel.group(0, 3, 20240301, 1, 20240301);
@@ -180,7 +152,6 @@ final class StaysTest {
     }
 
     private static void promise10WaitFor() {
-        Check.begin("promise 10");
         HotelNights hotel = new HotelNights();
         Check.same("first guest", hotel.waitFor(0, 20240226, 14, 4, 4), 1);
         Check.same("latest guest", hotel.waitFor(1, 20250225, 1, 1, 0), 2);
@@ -207,7 +178,6 @@ final class StaysTest {
     }
 
     private static void promise10GuestsAreGoneThroughInOrder() {
-        Check.begin("promise 10, order");
         HotelNights hotel = new HotelNights();
         hotel.addSeason(310, 310, 0, 2);
         hotel.ask(1, 20240301, 5, 1, 0, 20240301);
@@ -230,7 +200,6 @@ final class StaysTest {
     }
 
     private static void promise10GuestsThatMoveUp() {
-        Check.begin("promise 10, moving up");
         HotelNights hotel = new HotelNights();
         hotel.setWeekend(0, 100);
         hotel.ask(1, 20240303, 1, 1, 0, 20240301);
@@ -252,7 +221,6 @@ final class StaysTest {
     }
 
     private static void promise10NoStayBeyondSixty() {
-        Check.begin("promise 10, sixty stays");
         HotelNights hotel = withSixtyStays();
         hotel.waitFor(0, 20240401, 1, 1, 0);
         hotel.waitFor(0, 20240226, 1, 1, 0);
@@ -263,7 +231,6 @@ final class StaysTest {
     }
 
     private static void promise11Pay() {
-        Check.begin("promise 11");
         HotelNights hotel = new HotelNights();
         hotel.addKind(1, 102);
         hotel.ask(2, 20240301, 1, 1, 0, 20240301);
@@ -286,7 +253,6 @@ final class StaysTest {
     }
 
     private static void promise12Cancel() {
-        Check.begin("promise 12");
         HotelNights hotel = new HotelNights();
         hotel.ask(0, 20240227, 1, 1, 0, 20240226);
         Check.same("held", hotel.cancel(0), 0);
@@ -306,7 +272,6 @@ final class StaysTest {
     }
 
     private static void promise12Refunds() {
-        Check.begin("promise 12, refunds");
         HotelNights hotel = new HotelNights();
         hotel.addKind(6, 105);
         int[][] due = {{20240311, 21}, {20240310, 11}, {20240229, 11}, {20240228, 0}, {20240227, 0}};
@@ -327,7 +292,6 @@ final class StaysTest {
     }
 
     private static void promise13Longer() {
-        Check.begin("promise 13");
         HotelNights hotel = new HotelNights();
         hotel.setWeekend(0, 10);
         hotel.ask(0, 20240301, 1, 2, 1, 20240301);
@@ -350,7 +314,6 @@ final class StaysTest {
     }
 
     private static void promise13LongerThrows() {
-        Check.begin("promise 13, throws");
         HotelNights hotel = new HotelNights();
         hotel.ask(0, 20250220, 2, 1, 0, 20240301);
         hotel.ask(0, 20240301, 2, 1, 0, 20240301);
@@ -370,7 +333,6 @@ final class StaysTest {
     }
 
     private static void promise14Shorter() {
-        Check.begin("promise 14");
         HotelNights hotel = new HotelNights();
         hotel.setWeekend(20, 10);
         hotel.ask(1, 20240229, 4, 2, 1, 20240228);
@@ -397,7 +359,6 @@ final class StaysTest {
     }
 
     private static void promise14ShorterThrows() {
-        Check.begin("promise 14, throws");
         HotelNights hotel = new HotelNights();
         hotel.ask(0, 20240226, 4, 1, 0, 20240226);
         hotel.pay(0);

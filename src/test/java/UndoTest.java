@@ -7,18 +7,7 @@ final class UndoTest {
     private UndoTest() {
     }
 
-    static void run() {
-        promise19Undo();
-        promise19EachChange();
-        promise19RefusedCallsAreChanges();
-        promise19ClosedNights();
-        promise19CallsThatThrowAreNoChanges();
-        promise19GuestsAndTheirStays();
-        promise19PricesOfNights();
-    }
-
     private static void promise19Undo() {
-        Check.begin("promise 19");
         HotelNights hotel = new HotelNights();
         String start = Look.at(hotel);
         Check.same("nothing to undo", hotel.undo(), HotelNights.NONE);
@@ -90,7 +79,6 @@ final class UndoTest {
     }
 
     private static void promise19RefusedCallsAreChanges() {
-        Check.begin("promise 19, refused");
         HotelNights hotel = new HotelNights();
         hotel.ask(1, 20240301, 1, 1, 0, 20240301);
         hotel.ask(1, 20240301, 1, 1, 0, 20240301);
@@ -106,7 +94,6 @@ final class UndoTest {
     }
 
     private static void promise19ClosedNights() {
-        Check.begin("promise 19, closed nights");
         HotelNights hotel = new HotelNights();
         hotel.closeNight(1, 20240301, true);
         hotel.closeNight(1, 20240301, false);
@@ -118,7 +105,6 @@ final class UndoTest {
     }
 
     private static void promise19CallsThatThrowAreNoChanges() {
-        Check.begin("promise 19, calls that throw");
         HotelNights hotel = new HotelNights();
         hotel.passes(1);
         Check.noArgument(hotel, "no day", () -> hotel.passes(0));
@@ -129,7 +115,6 @@ final class UndoTest {
     }
 
     private static void promise19GuestsAndTheirStays() {
-        Check.begin("promise 19, guests");
         HotelNights hotel = new HotelNights();
         hotel.waitFor(0, 20240227, 1, 2, 0);
         hotel.waitFor(0, 20240401, 1, 3, 0);
@@ -147,7 +132,6 @@ final class UndoTest {
     }
 
     private static void promise19PricesOfNights() {
-        Check.begin("promise 19, prices of nights");
         HotelNights hotel = new HotelNights();
         hotel.ask(0, 20240301, 3, 1, 0, 20240301);
         hotel.shorter(0, 2);
