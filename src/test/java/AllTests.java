@@ -6,7 +6,7 @@ public final class AllTests {
         Section01DatesTest.class, Section02KindsTest.class, Section03StaysTest.class, Section04RoomsTest.class,
         Section05SeasonsTest.class, Section06TaxesTest.class, Section07BooksTest.class, Section08DaysTest.class,
         Section09GuestsTest.class, Section10OffersTest.class, Section11GroupsTest.class,
-        Section12HousekeepersTest.class, Section13ChangesTest.class,
+        Section12HousekeepersTest.class, Section13ChangesTest.class, Section13UndoTest.class,
         Promises01To06EdgesTest.class, Promises07To10EdgesTest.class, Promises11To15EdgesTest.class,
         Promises16To22EdgesTest.class, Promises23To33EdgesTest.class, Promises34To45EdgesTest.class,
     };

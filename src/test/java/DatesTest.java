@@ -2,9 +2,6 @@ import java.time.LocalDate;
 
 /** Promises 20 to 22: today and dates. */
 final class DatesTest {
-    private static final int[] NO_DATES = {0, -1, 20240230, 20230229, 20240431, 20240001, 20241301, 20240100,
-        20240132, 19991231, 19990615, 20231232, 21000101, 202401, -20240226, Integer.MIN_VALUE, Integer.MAX_VALUE};
-
     private DatesTest() {
     }
 
@@ -24,7 +21,7 @@ final class DatesTest {
             int number = Look.toNumber(date);
             Check.same("day of " + number, hotel.dayOfWeek(number), date.getDayOfWeek().getValue());
         }
-        for (int date : NO_DATES) {
+        for (int date : Edges.NO_DATES) {
             Check.noArgument(hotel, "no date " + date, () -> hotel.dayOfWeek(date));
         }
     }
@@ -68,7 +65,7 @@ final class DatesTest {
         Check.noArgument(hotel, "1001 days", () -> hotel.addDays(20240226, 1001));
         Check.noArgument(hotel, "-1001 days", () -> hotel.addDays(20240226, -1001));
         Check.noArgument(hotel, "most days", () -> hotel.addDays(20240226, Integer.MAX_VALUE));
-        for (int date : NO_DATES) {
+        for (int date : Edges.NO_DATES) {
             Check.noArgument(hotel, "no date " + date, () -> hotel.addDays(date, 0));
         }
     }

@@ -3,14 +3,6 @@ final class OffersTest {
     private OffersTest() {
     }
 
-    /** 10000 with 0.5 and 4000 with 0.25, nothing with 0.25. */
-    private static HotelNights withTwoSorts() {
-        HotelNights hotel = new HotelNights();
-        hotel.setOdds(0, 10000, 500);
-        hotel.setOdds(3, 4000, 250);
-        return hotel;
-    }
-
     private static void promise16SetOdds() {
         HotelNights hotel = new HotelNights();
         Check.same("no odds", hotel.setOdds(2, 100000, 0), 0);
@@ -31,7 +23,7 @@ final class OffersTest {
     }
 
     private static void promise17Sell() {
-        HotelNights hotel = withTwoSorts();
+        HotelNights hotel = Hotels.withTwoSorts();
         Check.same("without another day", hotel.sell(1, 1), 0);
         Check.same("first limit", hotel.sell(2, 1), 6000);
         Check.same("days", hotel.saleAt(0), 2);
@@ -49,7 +41,7 @@ final class OffersTest {
     }
 
     private static void promise18Offer() {
-        HotelNights hotel = withTwoSorts();
+        HotelNights hotel = Hotels.withTwoSorts();
         Check.noState(hotel, "no sale", () -> hotel.offer(100));
         Check.noArgument(hotel, "argument ahead of state", () -> hotel.offer(-1));
         Check.noArgument(hotel, "price 100001", () -> hotel.offer(100001));
@@ -70,7 +62,7 @@ final class OffersTest {
     }
 
     private static void promise18OddsChangeWithinASale() {
-        HotelNights hotel = withTwoSorts();
+        HotelNights hotel = Hotels.withTwoSorts();
         hotel.sell(2, 1);
         hotel.setOdds(0, 10000, 0);
         Check.same("the limit is now 1000", hotel.limit(2, 1), 1000);
@@ -80,7 +72,7 @@ final class OffersTest {
     }
 
     private static void promise34Awaited() {
-        HotelNights hotel = withTwoSorts();
+        HotelNights hotel = Hotels.withTwoSorts();
         Check.same("no day", hotel.awaited(0, 5), 0);
         Check.same("no room", hotel.awaited(4, 0), 0);
         Check.same("one day", hotel.awaited(1, 1), 6000000L);
@@ -103,7 +95,7 @@ final class OffersTest {
     }
 
     private static void promise35Limit() {
-        HotelNights hotel = withTwoSorts();
+        HotelNights hotel = Hotels.withTwoSorts();
         Check.same("one day", hotel.limit(1, 1), 0);
         Check.same("two days, one room", hotel.limit(2, 1), 6000);
         Check.same("two days, two rooms", hotel.limit(2, 2), 0);
@@ -123,7 +115,7 @@ final class OffersTest {
     }
 
     private static void promise36SaleAt() {
-        HotelNights hotel = withTwoSorts();
+        HotelNights hotel = Hotels.withTwoSorts();
         Check.noState(hotel, "no sale", () -> hotel.saleAt(0));
         Check.noArgument(hotel, "argument ahead of state", () -> hotel.saleAt(4));
         hotel.sell(4, 2);

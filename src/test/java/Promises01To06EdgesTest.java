@@ -196,7 +196,8 @@ final class Promises01To06EdgesTest {
     }
 
     private static void promise05ThrowsIfThereAre4() {
-        Edges.noState(Promises01To06EdgesTest::withFourSeasons, "a fifth one", hotel -> hotel.addSeason(101, 102, 0, 1));
+        Edges.noState(Promises01To06EdgesTest::withFourSeasons, "a fifth one",
+                hotel -> hotel.addSeason(101, 102, 0, 1));
     }
 
     private static void promise05AnArgumentComesAheadOfTheState() {

@@ -204,7 +204,8 @@ final class Promises11To15EdgesTest {
     }
 
     private static void promise14NoNightAheadOfTodayIsLeftOut() {
-        Edges.range(Promises11To15EdgesTest::onTheFifthOfSevenNights, 1, 3, (hotel, nights) -> hotel.shorter(0, nights));
+        Edges.range(Promises11To15EdgesTest::onTheFifthOfSevenNights, 1, 3,
+                (hotel, nights) -> hotel.shorter(0, nights));
     }
 
     /** The nights of today and of two days more can be left out. */

@@ -281,10 +281,31 @@ final class Promises34To45EdgesTest {
         Check.same("March", hotel.monthIncome(202403), 10000);
     }
 
+    private static void promise41TheLastNightOfFebruaryInAnotherYear() {
+        HotelNights hotel = new HotelNights();
+        hotel.passes(31);
+        Hotels.paid(hotel, 0, 20250227, 4);
+        Check.same("27 and 28", hotel.monthIncome(202502), 20000);
+        Check.same("1 and 2", hotel.monthIncome(202503), 20000);
+    }
+
+    private static void promise41TheLastNightOfTheYear() {
+        HotelNights hotel = new HotelNights();
+        Hotels.paid(hotel, 0, 20241230, 5);
+        Check.same("30 and 31", hotel.monthIncome(202412), 20000);
+        Check.same("1 to 3", hotel.monthIncome(202501), 30000);
+    }
+
     private static void promise42ZeroWithoutStays() {
         Check.same("no stay", new HotelNights().meanPrice(), 0.0);
         Check.same("none that is alive", Hotels.withOneCancelled().meanPrice(), 0.0);
         Check.same("one that is over", Hotels.withOneOver().meanPrice(), 0.0);
+    }
+
+    private static void promise42OfOneNight() {
+        HotelNights hotel = new HotelNights();
+        Hotels.ask(hotel, 0, 20240304, 1);
+        Check.same("10000 for one night", hotel.meanPrice(), 10000.0);
     }
 
     private static void promise42OfHeldAndPaidStays() {
@@ -328,6 +349,15 @@ final class Promises34To45EdgesTest {
         for (int taken = 0; taken <= 6; taken++) {
             Check.same("taken " + taken, hotel.share(0, 20240304), (float) taken / 3.0f);
             Hotels.ask(hotel, 0, 20240304, 1);
+        }
+    }
+
+    private static void promise43OfOneRoom() {
+        HotelNights hotel = new HotelNights();
+        hotel.setExtra(1, 3);
+        for (int taken = 0; taken <= 4; taken++) {
+            Check.same("taken " + taken, hotel.share(1, 20240304), (float) taken);
+            Hotels.ask(hotel, 1, 20240304, 1);
         }
     }
 

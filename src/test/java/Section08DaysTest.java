@@ -219,6 +219,28 @@ final class Section08DaysTest {
         statesAre(hotel, PAID, PAID, PAID, SENT, PAID, SENT, PAID, SENT);
     }
 
+    private static void section08DWithSixtyStays() {
+        HotelNights hotel = Hotels.withStays(58);
+        hotel.setExtra(1, 1);
+        Hotels.paid(hotel, 1, 20240227, 1);
+        Hotels.paid(hotel, 1, 20240227, 1);
+        hotel.passes(1);
+        Check.same("the fifty-ninth", hotel.stayAt(58, 0), PAID);
+        Check.same("the sixtieth", hotel.stayAt(59, 0), SENT);
+        Check.same("count", hotel.count(0, 20240401), 3);
+    }
+
+    private static void section08DAStayThatWasUndoneIsNotSentAway() {
+        HotelNights hotel = new HotelNights();
+        hotel.setExtra(1, 1);
+        Hotels.paid(hotel, 1, 20240227, 1);
+        Hotels.paid(hotel, 1, 20240227, 1);
+        Hotels.ask(hotel, 1, 20240228, 1);
+        hotel.undo();
+        hotel.passes(1);
+        statesAre(hotel, PAID, SENT);
+    }
+
     private static void section08DNobodyIsSentAwayOnTheNightItself() {
         HotelNights hotel = new HotelNights();
         hotel.setExtra(1, 1);
