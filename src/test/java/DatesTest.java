@@ -41,7 +41,8 @@ final class DatesTest {
 
     private static boolean isDate(HotelNights hotel, int date) {
         try {
-            return hotel.addDays(date, 0) == date;
+            hotel.addDays(date, 0);
+            return true;
         } catch (IllegalArgumentException e) {
             return false;
         }

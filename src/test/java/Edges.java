@@ -7,7 +7,7 @@ import java.util.function.Supplier;
 final class Edges {
     /** Beyond the years, the months and the days, and of another form. */
     static final int[] NO_DATES = {19991231, 19990615, 21000101, 20240015, 20241301, 20240100, 20240132, 20240230,
-        20250229, 20240431, 20240631, 20240931, 20241131, 20241232, 0, -1, -20240226, 202401, 2024226,
+        20250229, 20240431, 20240631, 20240931, 20241131, 20241232, 20231232, 0, -1, -20240226, 202401, 2024226,
         202402260, Integer.MIN_VALUE, Integer.MAX_VALUE};
     private static final int MANY = 40;
 
