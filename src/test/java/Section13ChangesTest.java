@@ -1,6 +1,7 @@
 import java.util.ArrayList;
 import java.util.List;
 import java.util.function.Function;
+import java.util.function.ToIntFunction;
 
 /** Section 13: changes, exceptions, and undo. */
 final class Section13ChangesTest {
@@ -87,6 +88,35 @@ final class Section13ChangesTest {
         Check.same("refused night", hotel.refusedNight(), 20240302);
         Check.same("undo", hotel.undo(), 2);
         Check.same("no refused night", hotel.refusedNight(), 0);
+    }
+
+    /** The call is refused; the same call again then leaves all that can be seen as it is, and is undone for itself. */
+    private static void isRefusedAgain(HotelNights hotel, ToIntFunction<HotelNights> call, int refusedNight) {
+        long stays = Look.stays(hotel);
+        Check.same("refused", call.applyAsInt(hotel), HotelNights.NONE);
+        Check.same("refused night", hotel.refusedNight(), refusedNight);
+        String before = Look.at(hotel);
+        Check.same("refused again", call.applyAsInt(hotel), HotelNights.NONE);
+        Check.same("all that can be seen", Look.at(hotel), before);
+        Check.same("stays", Look.stays(hotel), stays);
+        hotel.undo();
+        Check.same("undone once", Look.at(hotel), before);
+        hotel.undo();
+        Check.same("undone twice", hotel.refusedNight(), 0);
+    }
+
+    private static void section13ARefusedAskLeavesTheStateButTheRefusedNight() {
+        isRefusedAgain(Hotels.busy(), hotel -> hotel.ask(0, 20240304, 3, 4, 4, 20240301), 20240305);
+    }
+
+    private static void section13ARefusedGroupLeavesTheStateButTheRefusedNight() {
+        isRefusedAgain(Hotels.busy(), hotel -> hotel.group(1, 3, 20240401, 2, 20240301), 20240401);
+    }
+
+    private static void section13ARefusedLongerLeavesTheStateButTheRefusedNight() {
+        HotelNights hotel = Hotels.busy();
+        hotel.closeNight(1, 20240314, true);
+        isRefusedAgain(hotel, other -> other.longer(1, 2), 20240314);
     }
 
     private static void section13AnOfferThatIsNotTakenIsAChange() {
