@@ -10,22 +10,42 @@ public final class AllTests {
         Promises01To06EdgesTest.class, Promises07To10EdgesTest.class, Promises11To15EdgesTest.class,
         Promises16To22EdgesTest.class, Promises23To33EdgesTest.class, Promises34To45EdgesTest.class,
     };
+    /** The tests need some five seconds; a program in which a loop has no end must not hold them for ever. */
+    private static final int MOST_SECONDS = 180;
 
     private AllTests() {
     }
 
     public static void main(String[] arguments) throws Exception {
+        endInTime();
         FaceTest.run();
         LanguageTest.run();
+        ReadmeTest.run();
         for (Class<?> tests : TESTS) {
             Tests.run(tests);
         }
         NamesTest.run();
+        SentencesTest.run();
         RandomRunsTest.run();
         System.out.println(Tests.RAN.size() + " tests; " + Check.passed + " answers as due, " + Check.failed
                 + " not as due");
         if (Check.failed > 0 || Check.passed == 0) {
             System.exit(1);
         }
+    }
+
+    private static void endInTime() {
+        Thread watch = new Thread(() -> {
+            try {
+                Thread.sleep(MOST_SECONDS * 1000L);
+            } catch (InterruptedException e) {
+                return;
+            }
+            System.out.println(Check.part() + ": not done after " + MOST_SECONDS + " seconds");
+            System.out.flush();
+            Runtime.getRuntime().halt(1);
+        });
+        watch.setDaemon(true);
+        watch.start();
     }
 }

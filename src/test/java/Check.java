@@ -4,13 +4,17 @@ import java.util.function.Supplier;
 final class Check {
     static int passed = 0;
     static int failed = 0;
-    private static String part = "";
+    private static volatile String part = "";
 
     private Check() {
     }
 
     static void begin(String name) {
         part = name;
+    }
+
+    static String part() {
+        return part;
     }
 
     static void same(String what, long got, long due) {

@@ -108,10 +108,7 @@ final class DaysTest {
 
     /** It takes more calls than are promised to come there, but those that tell the time should hold all the same. */
     private static void promise15TheEndOfTheYears() {
-        HotelNights hotel = new HotelNights();
-        while (hotel.today() < 20991201) {
-            hotel.passes(hotel.today() < 20991001 ? 31 : 1);
-        }
+        HotelNights hotel = Hotels.atTheEndOfTheYears();
         Check.noArgument(hotel, "31 days", () -> hotel.passes(31));
         Check.noArgument(hotel, "two nights from the last one", () -> hotel.ask(0, 20991231, 2, 1, 0, 20991201));
         Check.noArgument(hotel, "a guest of two nights", () -> hotel.waitFor(0, 20991231, 2, 1, 0));

@@ -10,6 +10,7 @@ final class Edges {
         20250229, 20240431, 20240631, 20240931, 20241131, 20241232, 20231232, 0, -1, -20240226, 202401, 2024226,
         202402260, Integer.MIN_VALUE, Integer.MAX_VALUE};
     private static final int MANY = 40;
+    private static final int BEYOND_ALL_UNDO = 8;
 
     private Edges() {
     }
@@ -82,9 +83,10 @@ final class Edges {
     /** What can be seen now, and behind each undo that there is. */
     static List<String> states(HotelNights hotel) {
         List<String> all = new ArrayList<>();
-        do {
+        all.add(Look.at(hotel));
+        for (int i = 0; i < BEYOND_ALL_UNDO && hotel.undo() != HotelNights.NONE; i++) {
             all.add(Look.at(hotel));
-        } while (hotel.undo() != HotelNights.NONE);
+        }
         return all;
     }
 }

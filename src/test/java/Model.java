@@ -172,6 +172,11 @@ final class Model {
         }
     }
 
+    /** The number of stays; no call of the face tells it. */
+    int stays() {
+        return s.stays.size();
+    }
+
     // ---- what is thrown
 
     private static void index(int number, int size) {

@@ -1,7 +1,9 @@
 /** Promises 34 to 45: each range, each exception, and their order. */
 final class Promises34To45EdgesTest {
+    /** The last ones are 202402 beyond a quarter, a half and three quarters of what an int can tell. */
     private static final int[] NO_MONTHS = {199912, 200000, 200013, 202400, 202413, 202499, 209900, 209913, 210001,
-        0, 1, 12, -1, -202402, 2024, 20240226, Integer.MIN_VALUE, Integer.MAX_VALUE};
+        0, 1, 12, -1, -202402, 2024, 20240226, Integer.MIN_VALUE, Integer.MAX_VALUE, 202402 + (1 << 30),
+        202402 + (1 << 31), 202402 - (1 << 30)};
 
     private Promises34To45EdgesTest() {
     }

@@ -146,7 +146,7 @@ final class RandomRunsTest {
                     .plusDays(between(0, 2)));
             case "groupSize": return near(1, random.nextInt(3) == 0 ? 6 : 3);
             case "group": return near(0, random.nextInt(3) == 0 ? 9 : 2);
-            case "stay": return near(0, Math.max(0, Look.stays(hotel) - (random.nextInt(20) == 0 ? 0 : 1)));
+            case "stay": return near(0, Math.max(0, model.stays() - (random.nextInt(20) == 0 ? 0 : 1)));
             case "days": return near(1, random.nextInt(6) == 0 ? 31 : 3);
             case "sort": return near(0, 3);
             case "odds": return near(0, random.nextInt(4) == 0 ? 1000 : 300);

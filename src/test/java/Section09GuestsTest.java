@@ -141,6 +141,15 @@ final class Section09GuestsTest {
         lookedAtBehind(hotel -> hotel.letGo(0));
     }
 
+    private static void section09LookedAtBehindAllThatLettingGoCancels() {
+        HotelNights hotel = new HotelNights();
+        hotel.group(0, 3, 20240304, 1, 20240304);
+        hotel.waitFor(0, 20240304, 1, 1, 0);
+        Check.same("cancelled", hotel.letGo(0), 3);
+        Check.same("guests that wait", hotel.waiting(), 0);
+        Check.same("the price without the group", hotel.stayAt(3, 4), 10000);
+    }
+
     private static void section09LookedAtBehindMakingShorter() {
         lookedAtBehind(hotel -> hotel.shorter(0, 1));
     }

@@ -74,6 +74,33 @@ final class Section10OffersTest {
         Check.same("0.5 x 10000 + 0.25 x 6000 + 0.25 x 6000", hotel.awaited(2, 1), 8000000000L);
     }
 
+    /** Of two days and one room: each set of the sorts could be taken on the first day, and all on the last one. */
+    private static void section10IncomeOfTheBestWayOfAllWays() {
+        int[] prices = {10000, 3000, 6001, 4999};
+        int[] odds = {100, 300, 250, 200};
+        HotelNights hotel = new HotelNights();
+        long lastDay = 0;
+        for (int sort = 0; sort < 4; sort++) {
+            hotel.setOdds(sort, prices[sort], odds[sort]);
+            lastDay += (long) odds[sort] * prices[sort];
+        }
+        long best = 0;
+        for (int taken = 0; taken < 16; taken++) {
+            long income = 0;
+            int left = 1000;
+            for (int sort = 0; sort < 4; sort++) {
+                if ((taken >> sort & 1) == 1) {
+                    income += (long) odds[sort] * prices[sort] * 1000;
+                    left -= odds[sort];
+                }
+            }
+            best = Math.max(best, income + left * lastDay);
+        }
+        Check.same("one day", hotel.awaited(1, 1), lastDay);
+        Check.same("two days, one room", hotel.awaited(2, 1), best);
+        Check.same("two days, two rooms", hotel.awaited(2, 2), 2 * 1000 * lastDay);
+    }
+
     private static void section10MoreRoomsThanDays() {
         HotelNights hotel = Hotels.withTwoSorts();
         Check.same("one day, two rooms", hotel.awaited(1, 2), 6000000L);

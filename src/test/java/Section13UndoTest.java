@@ -338,4 +338,15 @@ final class Section13UndoTest {
             Check.same("change " + i + ", as it was", Look.at(hotel), before);
         }
     }
+
+    private static void section13SixChangesOfManyUpToTheLastCall() {
+        HotelNights hotel = new HotelNights();
+        for (int i = 1; i <= 505; i++) {
+            hotel.setWeekend(i % 101, i);
+        }
+        for (int left = 5; left >= 0; left--) {
+            Check.same("undo", hotel.undo(), left);
+        }
+        Check.same("the 512th call: the tax of the 499th change", hotel.setWeekend(0, 0), 499);
+    }
 }
