@@ -37,7 +37,10 @@ import javax.lang.model.type.DeclaredType;
 import javax.lang.model.type.TypeKind;
 import javax.lang.model.type.TypeMirror;
 
-/** The rules of ../shared/LANGUAGE.md, by the program's syntax tree. What a rule leaves free is free here, too. */
+/**
+ * The rules of ../shared/LANGUAGE.md, by the program's syntax tree. What a rule leaves free is free here, too, but for
+ * recursion: the program has none.
+ */
 final class LanguageTest extends TreePathScanner<Void, Void> {
     private static final Set<String> EXCEPTIONS = Set.of("java.lang.IllegalStateException",
             "java.lang.IllegalArgumentException", "java.lang.IndexOutOfBoundsException",
@@ -141,7 +144,8 @@ final class LanguageTest extends TreePathScanner<Void, Void> {
         boolean isStatic = variable.getKind() == ElementKind.FIELD && variable.getModifiers().contains(Modifier.STATIC);
         if (isStatic) {
             keeps(5, "a static field is final", variable.getModifiers().contains(Modifier.FINAL));
-            keeps(5, "a static field is a constant", isConstantType(variable.asType()) && tree.getInitializer() != null);
+            boolean isConstant = isConstantType(variable.asType()) && tree.getInitializer() != null;
+            keeps(5, "a static field is a constant", isConstant);
         }
         return super.visitVariable(tree, none);
     }
@@ -164,8 +168,9 @@ final class LanguageTest extends TreePathScanner<Void, Void> {
     private boolean isAllowed(TypeMirror type, int dimensions) {
         if (type instanceof ArrayType) {
             TypeMirror of = ((ArrayType) type).getComponentType();
-            boolean isOfNumbers = !(of instanceof ArrayType) || ((ArrayType) of).getComponentType().getKind().isPrimitive();
-            return dimensions > 0 && isOfNumbers && isAllowed(of, dimensions - 1);
+            boolean isOfArrays = of instanceof ArrayType;
+            boolean isRight = !isOfArrays || ((ArrayType) of).getComponentType().getKind().isPrimitive();
+            return dimensions > 0 && isRight && isAllowed(of, dimensions - 1);
         }
         if (type instanceof DeclaredType) {
             String name = program.nameOf(type);
@@ -267,12 +272,14 @@ final class LanguageTest extends TreePathScanner<Void, Void> {
             TypeMirror type = program.typeOf(new TreePath(getCurrentPath(), thrown));
             List<? extends ExpressionTree> words = thrown.getArguments();
             keeps(6, "one of the exceptions", EXCEPTIONS.contains(program.nameOf(type)));
-            keeps(6, "a written text or none", words.isEmpty() || words.size() == 1 && words.get(0) instanceof LiteralTree);
+            boolean isWritten = words.size() == 1 && words.get(0) instanceof LiteralTree;
+            keeps(6, "a written text or none", words.isEmpty() || isWritten);
         }
         for (TreePath path = getCurrentPath(); path != null; path = path.getParentPath()) {
             Tree around = path.getLeaf();
             boolean isConstructor = around instanceof MethodTree && ((MethodTree) around).getReturnType() == null;
-            keeps(6, "no throw in a constructor, and none beside a try", !isConstructor && !(around instanceof TryTree));
+            keeps(6, "no throw in a constructor", !isConstructor);
+            keeps(6, "no throw inside a try", !(around instanceof TryTree));
         }
         return super.visitThrow(tree, none);
     }
@@ -286,7 +293,8 @@ final class LanguageTest extends TreePathScanner<Void, Void> {
     @Override
     public Void visitCatch(CatchTree tree, Void none) {
         String name = tree.getParameter().getName().toString();
-        keeps(6, "a catch leaves the exception alone", !tree.getBlock().toString().matches("(?s).*\\b" + name + "\\b.*"));
+        boolean isUsed = tree.getBlock().toString().matches("(?s).*\\b" + name + "\\b.*");
+        keeps(6, "a catch leaves the exception alone", !isUsed);
         return super.visitCatch(tree, none);
     }
 
